@@ -17,16 +17,15 @@ public final class NeighbourScores {
     private static final int MOST_WORDS_TO_FAILURE = 100;
 
     private final Disk disk = new Disk();
-    private final Snapshots snapshots = new Snapshots(disk);
-    private final Records records = new Records(disk);
+    private final Snapshots snapshots = new Snapshots();
+    private final Records records = new Records();
     private final Ratings ratings = new Ratings();
     private final Ranking ranking = new Ranking();
-    private final Reading reading = new Reading(ratings);
+    private final Reading reading = new Reading();
     private int systemNumber = 0;
     private int baseNumber = 0;
 
     public NeighbourScores() {
-        snapshots.makeFirstGood();
     }
 
     public int rate(int u, int i, int r) {
@@ -39,7 +38,7 @@ public final class NeighbourScores {
         if (systemNumber - baseNumber >= MOST_RECORDS) {
             return FULL;
         }
-        if (!records.writeRecord(systemNumber + 1, u, i, r)) {
+        if (!records.writeRecord(disk, systemNumber + 1, u, i, r)) {
             return OFF;
         }
         int before = ratings.at(u, i);
@@ -52,7 +51,7 @@ public final class NeighbourScores {
         if (!disk.isPowered()) {
             return OFF;
         }
-        if (!snapshots.writeOverOlder(systemNumber, ratings)) {
+        if (!snapshots.writeOverOlder(disk, systemNumber, ratings)) {
             return OFF;
         }
         baseNumber = systemNumber;
@@ -69,12 +68,12 @@ public final class NeighbourScores {
 
     public int restart() {
         disk.switchOn();
-        baseNumber = snapshots.loadNewest(ratings);
+        baseNumber = Snapshots.loadNewest(disk, ratings);
         systemNumber = baseNumber;
         int repeated = 0;
-        while (repeated < MOST_RECORDS && records.holds(systemNumber + 1)) {
+        while (repeated < MOST_RECORDS && Records.holds(disk, systemNumber + 1)) {
             systemNumber++;
-            records.repeat(systemNumber, ratings);
+            Records.repeat(disk, systemNumber, ratings);
             repeated++;
         }
         return repeated;
@@ -151,7 +150,7 @@ public final class NeighbourScores {
         if (!isUser(u) || k < 1 || k > ITEMS) {
             return BAD;
         }
-        return reading.countEntries(u, k);
+        return reading.countEntries(ratings, u, k);
     }
 
     public long share(int u, int i, int j) {
@@ -198,6 +197,11 @@ public final class NeighbourScores {
         private boolean powered = true;
         private int wordsToFailure = NEVER;
 
+        Disk() {
+            int place = Snapshots.WORDS - 1;
+            words[place] = checkOf(words, 0, place, Snapshots.SEED);
+        }
+
         boolean isPowered() {
             return powered;
         }
@@ -233,23 +237,15 @@ public final class NeighbourScores {
         }
 
         boolean isCheckRight(int start, int count, int seed) {
-            int h = seed;
-            for (int k = 0; k < count; k++) {
-                h = mix(h, at(start + k));
-            }
-            return at(start + count) == (h | 1);
+            return at(start + count) == checkOf(words, start, count, seed);
         }
 
-        /** Ends a row with the check of the words before. */
-        static void closeRow(int[] row, int seed) {
-            int last = row.length - 1;
+        static int checkOf(int[] row, int start, int count, int seed) {
             int h = seed;
-            for (int k = 0; k < last; k++) {
-                h = mix(h, row[k]);
+            for (int k = 0; k < count && k < row.length - start; k++) {
+                h = mix(h, row[start + k]);
             }
-            if (last >= 0) {
-                row[last] = h | 1;
-            }
+            return h | 1;
         }
 
         private boolean has(int a) {
@@ -276,40 +272,30 @@ public final class NeighbourScores {
     /** The two snapshots at the disk's start. */
     private static final class Snapshots {
         static final int WORDS = 26;
+        static final int SEED = 1;
 
-        private static final int SEED = 1;
         private static final int MOST_NUMBER = 1000000000;
         private static final int HALVES = 2;
 
-        private final Disk disk;
         private final int[] row = new int[WORDS];
 
-        Snapshots(Disk disk) {
-            this.disk = disk;
-        }
-
-        void makeFirstGood() {
-            Disk.closeRow(row, SEED);
-            disk.put(WORDS - 1, row[WORDS - 1]);
-        }
-
         /** Answers whether all of it was written. */
-        boolean writeOverOlder(int number, Ratings ratings) {
+        boolean writeOverOlder(Disk disk, int number, Ratings ratings) {
             row[0] = number;
             for (int u = 0; u < USERS; u++) {
                 for (int half = 0; half < HALVES; half++) {
                     row[placeOf(u, half)] = ratings.packed(u, half);
                 }
             }
-            Disk.closeRow(row, SEED);
+            row[WORDS - 1] = Disk.checkOf(row, 0, WORDS - 1, SEED);
             // The one that a restart would take stays whole, whatever becomes of this one.
-            int which = newest() == 1 ? 0 : 1;
+            int which = newest(disk) == 1 ? 0 : 1;
             return disk.writeRow(startOf(which), row);
         }
 
         /** Answers the number of the snapshot taken, 0 when there is no good one. */
-        int loadNewest(Ratings ratings) {
-            int which = newest();
+        static int loadNewest(Disk disk, Ratings ratings) {
+            int which = newest(disk);
             if (which == NONE) {
                 ratings.clear();
                 return 0;
@@ -323,9 +309,9 @@ public final class NeighbourScores {
             return disk.at(start);
         }
 
-        private int newest() {
-            boolean first = isGood(0);
-            boolean second = isGood(1);
+        private static int newest(Disk disk) {
+            boolean first = isGood(disk, 0);
+            boolean second = isGood(disk, 1);
             if (first && second) {
                 return disk.at(startOf(1)) > disk.at(startOf(0)) ? 1 : 0;
             }
@@ -335,7 +321,7 @@ public final class NeighbourScores {
             return second ? 1 : NONE;
         }
 
-        private boolean isGood(int which) {
+        private static boolean isGood(Disk disk, int which) {
             int start = startOf(which);
             int number = disk.at(start);
             return number >= 0 && number <= MOST_NUMBER && disk.isCheckRight(start, WORDS - 1, SEED);
@@ -356,30 +342,25 @@ public final class NeighbourScores {
         private static final int WORDS = 3;
         private static final int SEED = 2;
 
-        private final Disk disk;
         private final int[] row = new int[WORDS];
 
-        Records(Disk disk) {
-            this.disk = disk;
-        }
-
         /** Answers whether all of it was written. */
-        boolean writeRecord(int n, int u, int i, int r) {
+        boolean writeRecord(Disk disk, int n, int u, int i, int r) {
             row[0] = n;
             row[1] = 1000 * u + 10 * i + r;
-            Disk.closeRow(row, SEED);
+            row[2] = Disk.checkOf(row, 0, WORDS - 1, SEED);
             return disk.writeRow(startOf(n), row);
         }
 
-        boolean holds(int n) {
+        static boolean holds(Disk disk, int n) {
             int start = startOf(n);
             return disk.at(start) == n
                     && disk.isCheckRight(start, WORDS - 1, SEED)
                     && namesRating(disk.at(start + 1));
         }
 
-        /** Sets what the record says again; only for one that holds() has found. */
-        void repeat(int n, Ratings ratings) {
+        /** Sets again what the record says; only for one that holds() has found. */
+        static void repeat(Disk disk, int n, Ratings ratings) {
             int content = disk.at(startOf(n) + 1);
             ratings.set(userIn(content), itemIn(content), ratingIn(content));
         }
@@ -548,22 +529,20 @@ public final class NeighbourScores {
 
     /** Reads the lists of the items that a user has rated, round by round. */
     private static final class Reading {
-        private final Ratings ratings;
         private final Ranking[] lists = new Ranking[ITEMS];
         private final long[] found = new long[ITEMS];
         private int entries = 0;
 
-        Reading(Ratings ratings) {
-            this.ratings = ratings;
+        Reading() {
             for (int j = 0; j < ITEMS; j++) {
                 lists[j] = new Ranking();
             }
         }
 
-        int countEntries(int u, int k) {
-            begin(u);
+        int countEntries(Ratings ratings, int u, int k) {
+            begin(ratings, u);
             for (int p = 0; p < ITEMS && isEntryLeft(p); p++) {
-                long limit = readRound(u, p);
+                long limit = readRound(ratings, u, p);
                 if (countFoundAbove(limit) >= k) {
                     break;
                 }
@@ -571,7 +550,7 @@ public final class NeighbourScores {
             return entries;
         }
 
-        private void begin(int u) {
+        private void begin(Ratings ratings, int u) {
             entries = 0;
             for (int j = 0; j < ITEMS; j++) {
                 found[j] = 0;
@@ -592,20 +571,20 @@ public final class NeighbourScores {
         }
 
         /** Answers the limit behind the round. */
-        private long readRound(int u, int p) {
+        private long readRound(Ratings ratings, int u, int p) {
             long limit = 0;
             for (int j = 0; j < ITEMS; j++) {
                 if (lists[j].has(p)) {
                     entries++;
                     limit += ratings.at(u, j) * lists[j].valueAt(p);
-                    find(u, lists[j].itemAt(p));
+                    find(ratings, u, lists[j].itemAt(p));
                 }
             }
             return limit;
         }
 
         /** Scores only what the user has not rated: the rest never counts, and stays at 0. */
-        private void find(int u, int i) {
+        private void find(Ratings ratings, int u, int i) {
             if (ratings.at(u, i) == 0 && found[i] == 0) {
                 found[i] = ratings.scoreOf(u, i);
             }
