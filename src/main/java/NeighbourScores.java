@@ -242,7 +242,7 @@ public final class NeighbourScores {
 
         static int checkOf(int[] row, int start, int count, int seed) {
             int h = seed;
-            for (int k = 0; k < count && k < row.length - start; k++) {
+            for (int k = 0; k < count; k++) {
                 h = mix(h, row[start + k]);
             }
             return h | 1;

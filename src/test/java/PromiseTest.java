@@ -318,7 +318,11 @@ public final class PromiseTest {
             due("rating(11, " + i + ")", x.rating(11, i), last);
         }
         numbers(x, 30, 30, 8);
-        NeighbourScores y = filled(5);
+        NeighbourScores y = filled(12);
+        y.rate(0, 0, 3);
+        y.rate(0, 1, 3);
+        y.rate(11, 15, 3);
+        y.rate(11, 0, 3);
         y.snapshot();
         y.spoil(25, 0);
         y.spoil(51, 0);
@@ -327,7 +331,15 @@ public final class PromiseTest {
         }
         due("with nothing left", y.restart(), 0);
         numbers(y, 0, 0, 0);
-        due("no dot left", y.weight(1, 2), 0);
+        for (int u = 0; u < 12; u++) {
+            for (int i = 0; i < 16; i++) {
+                due("rating(" + u + ", " + i + ") with nothing left", y.rating(u, i), 0);
+            }
+        }
+        y.rate(5, 0, 1);
+        y.rate(5, 1, 1);
+        due("no dot left", y.weight(0, 1), 1048576);
+        due("no dot left", y.weight(0, 15), 0);
         due("check without bit 0", checkMatters(1, -2), false);
         due("check with another bit", checkMatters(1, -3), false);
         due("check", checkMatters(1, -1), true);
@@ -611,6 +623,9 @@ public final class PromiseTest {
         bests(x, 0, 6, 12);
         x.rate(0, 9, 0);
         bests(x, 0, 9, 6, 12);
+        x.rate(1, 0, 5);
+        x.rate(1, 15, 1);
+        bests(x, 0, 9, 0, 6, 12, 15);
         due("no user 12", x.best(12, 0), BAD);
         for (int e : EDGES) {
             due("no user", x.best(e, 0), BAD);
@@ -693,6 +708,24 @@ public final class PromiseTest {
         due("a list that has ended, k 1", x.reads(3, 1), 3);
         due("a list that has ended, k 2", x.reads(3, 2), 4);
         due("no entries", x.reads(11, 1), 0);
+        // One list, of the last item: 0 (1/2 of the whole), 2 (1/6), and then 9 (1/3) between them.
+        NeighbourScores y = new NeighbourScores();
+        int[] words = new int[24];
+        for (int u = 0; u < 5; u++) {
+            words[2 * u] = u < 3 ? 1 : 0;
+            words[2 * u + 1] = 0x10000000;
+        }
+        words[8] = 0x100;
+        laySnapshot(y, 1, 1, words, true);
+        y.restart();
+        y.rate(11, 15, 1);
+        list(y, 15, 0, 2);
+        due("item 0 counts", y.reads(11, 1), 2);
+        y.rate(4, 9, 1);
+        y.rate(3, 9, 1);
+        list(y, 15, 0, 9, 2);
+        due("item 0 counts", y.reads(11, 1), 2);
+        due("k 2", y.reads(11, 2), 3);
     }
 
     private static void share() {
