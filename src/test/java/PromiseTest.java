@@ -515,13 +515,7 @@ public final class PromiseTest {
         due("behind one to 0", x.weight(0, 1), 771011);
         x.restart();
         due("behind a restart", x.weight(0, 1), 771011);
-        NeighbourScores y = new NeighbourScores();
-        int[] full = new int[24];
-        for (int k = 0; k < 24; k++) {
-            full[k] = 0x55555555;
-        }
-        laySnapshot(y, 1, 1, full, true);
-        y.restart();
+        NeighbourScores y = allRatedFive();
         due("the greatest", y.weight(0, 15), 1048576);
         due("no greater with itself", y.weight(15, 15), 0);
         for (int e : EDGES) {
@@ -593,13 +587,7 @@ public final class PromiseTest {
             due("no user", x.score(e, 0), BAD);
             due("no item", x.score(0, e), BAD);
         }
-        NeighbourScores y = new NeighbourScores();
-        int[] full = new int[24];
-        for (int k = 0; k < 24; k++) {
-            full[k] = 0x55555555;
-        }
-        laySnapshot(y, 1, 1, full, true);
-        y.restart();
+        NeighbourScores y = allRatedFive();
         due("the greatest", y.score(11, 15), 15L * 5 * 1048576);
         due("none left", y.best(11, 0), NONE);
     }
@@ -799,6 +787,17 @@ public final class PromiseTest {
         for (int k = 1; k <= n; k++) {
             x.rate(k % 12, k % 16, k % 5 + 1);
         }
+        return x;
+    }
+
+    private static NeighbourScores allRatedFive() {
+        NeighbourScores x = new NeighbourScores();
+        int[] words = new int[24];
+        for (int k = 0; k < 24; k++) {
+            words[k] = 0x55555555;
+        }
+        laySnapshot(x, 1, 1, words, true);
+        x.restart();
         return x;
     }
 
