@@ -1,15 +1,5 @@
 /** Holds each promise of the document against answers worked out by hand: one method a promise. */
-public final class PromiseTest {
-
-    private static final int NONE = -1;
-    private static final int BAD = -2;
-    private static final int OFF = -3;
-    private static final int FULL = -4;
-
-    private static final int[] EDGES = {Integer.MIN_VALUE, -1000, -1, 16, 17, 1000, Integer.MAX_VALUE};
-
-    private static int wrong = 0;
-    private static String promise = "";
+public final class PromiseTest extends TestBench {
 
     public static void main(String[] args) {
         constants();
@@ -35,14 +25,11 @@ public final class PromiseTest {
         share();
         number();
         allOff();
-        System.out.println(wrong == 0 ? "all answers are as due" : wrong + " answers are not as due");
-        if (wrong != 0) {
-            System.exit(1);
-        }
+        end();
     }
 
     private static void constants() {
-        promise = "constants";
+        topic("constants");
         due("NONE", NeighbourScores.NONE, -1);
         due("BAD", NeighbourScores.BAD, -2);
         due("OFF", NeighbourScores.OFF, -3);
@@ -50,7 +37,7 @@ public final class PromiseTest {
     }
 
     private static void newObject() {
-        promise = "1 a new object";
+        topic("promise 1 a new object");
         NeighbourScores x = new NeighbourScores();
         for (int a = 0; a < 172; a++) {
             due("word(" + a + ")", x.word(a), a == 25 ? checkOf(1, new int[25]) : 0);
@@ -70,7 +57,7 @@ public final class PromiseTest {
     }
 
     private static void rate() {
-        promise = "2 rate";
+        topic("promise 2 rate");
         NeighbourScores x = new NeighbourScores();
         due("first", x.rate(11, 15, 5), 0);
         due("again", x.rate(11, 15, 2), 5);
@@ -116,7 +103,7 @@ public final class PromiseTest {
     }
 
     private static void rateWithoutPower() {
-        promise = "2 rate, the power fails";
+        topic("promise 2 rate, the power fails");
         for (int n = 0; n < 3; n++) {
             NeighbourScores x = new NeighbourScores();
             x.rate(5, 6, 3);
@@ -147,7 +134,7 @@ public final class PromiseTest {
     }
 
     private static void snapshot() {
-        promise = "3 snapshot";
+        topic("promise 3 snapshot");
         NeighbourScores x = new NeighbourScores();
         x.rate(0, 0, 1);
         x.rate(0, 7, 5);
@@ -182,7 +169,7 @@ public final class PromiseTest {
     }
 
     private static void snapshotPlace() {
-        promise = "3 snapshot, its place";
+        topic("promise 3 snapshot, its place");
         due("both good, the first greater", placeWritten(7, true, 6, true), 1);
         due("both good, the second greater", placeWritten(6, true, 7, true), 0);
         due("both good and equal", placeWritten(7, true, 7, true), 1);
@@ -210,7 +197,7 @@ public final class PromiseTest {
     }
 
     private static void snapshotWithoutPower() {
-        promise = "3 snapshot, the power fails";
+        topic("promise 3 snapshot, the power fails");
         NeighbourScores whole = filled(3);
         whole.snapshot();
         for (int n = 0; n < 26; n++) {
@@ -237,7 +224,7 @@ public final class PromiseTest {
     }
 
     private static void power() {
-        promise = "4 power";
+        topic("promise 4 power");
         NeighbourScores x = new NeighbourScores();
         for (int n = -1; n <= 100; n++) {
             due("power(" + n + ")", x.power(n), true);
@@ -271,7 +258,7 @@ public final class PromiseTest {
     }
 
     private static void powerWhenOff() {
-        promise = "4 power, when it is off";
+        topic("promise 4 power, when it is off");
         NeighbourScores x = new NeighbourScores();
         x.power(0);
         due("off", x.rate(0, 0, 1), OFF);
@@ -289,7 +276,7 @@ public final class PromiseTest {
     }
 
     private static void restartFromSnapshots() {
-        promise = "5 restart, the snapshots";
+        topic("promise 5 restart, the snapshots");
         int[] first = new int[24];
         int[] second = new int[24];
         first[0] = 1;
@@ -369,7 +356,7 @@ public final class PromiseTest {
     }
 
     private static void restartFromRecords() {
-        promise = "5 restart, the records";
+        topic("promise 5 restart, the records");
         NeighbourScores x = filled(40);
         int rated = x.number(2);
         due("all", x.restart(), 40);
@@ -414,7 +401,7 @@ public final class PromiseTest {
     }
 
     private static void isOn() {
-        promise = "6 isOn";
+        topic("promise 6 isOn");
         NeighbourScores x = new NeighbourScores();
         due("new", x.isOn(), true);
         x.power(0);
@@ -430,7 +417,7 @@ public final class PromiseTest {
     }
 
     private static void word() {
-        promise = "7 word";
+        topic("promise 7 word");
         NeighbourScores x = new NeighbourScores();
         x.spoil(0, 12);
         x.spoil(171, -7);
@@ -446,7 +433,7 @@ public final class PromiseTest {
     }
 
     private static void spoil() {
-        promise = "8 spoil";
+        topic("promise 8 spoil");
         NeighbourScores x = new NeighbourScores();
         for (int a = 0; a < 172; a++) {
             due("spoil(" + a + ")", x.spoil(a, 3 * a - 100), true);
@@ -472,7 +459,7 @@ public final class PromiseTest {
     }
 
     private static void rating() {
-        promise = "9 rating";
+        topic("promise 9 rating");
         NeighbourScores x = new NeighbourScores();
         for (int r = 0; r <= 5; r++) {
             x.rate(r, r + 10, r);
@@ -491,7 +478,7 @@ public final class PromiseTest {
     }
 
     private static void weight() {
-        promise = "10 weight";
+        topic("promise 10 weight");
         NeighbourScores x = new NeighbourScores();
         x.rate(0, 0, 3);
         x.rate(0, 1, 5);
@@ -526,7 +513,7 @@ public final class PromiseTest {
     }
 
     private static void neighbour() {
-        promise = "11 neighbour";
+        topic("promise 11 neighbour");
         NeighbourScores x = new NeighbourScores();
         x.rate(0, 4, 1);
         x.rate(0, 2, 3);
@@ -557,16 +544,8 @@ public final class PromiseTest {
         list(y, 8, 0, 1, 2, 3, 4, 5, 6, 7, 9, 10, 11, 12, 13, 14, 15);
     }
 
-    private static void list(NeighbourScores x, int j, int... items) {
-        for (int p = 0; p < items.length; p++) {
-            due("neighbour(" + j + ", " + p + ")", x.neighbour(j, p), items[p]);
-        }
-        due("neighbour(" + j + ", " + items.length + ")", x.neighbour(j, items.length), NONE);
-        due("neighbour(" + j + ", -1)", x.neighbour(j, -1), NONE);
-    }
-
     private static void score() {
-        promise = "12 score";
+        topic("promise 12 score");
         NeighbourScores x = new NeighbourScores();
         x.rate(0, 0, 3);
         x.rate(0, 1, 5);
@@ -593,7 +572,7 @@ public final class PromiseTest {
     }
 
     private static void best() {
-        promise = "13 best";
+        topic("promise 13 best");
         NeighbourScores x = new NeighbourScores();
         x.rate(0, 3, 2);
         x.rate(1, 3, 1);
@@ -622,16 +601,8 @@ public final class PromiseTest {
         }
     }
 
-    private static void bests(NeighbourScores x, int u, int... items) {
-        for (int p = 0; p < items.length; p++) {
-            due("best(" + u + ", " + p + ")", x.best(u, p), items[p]);
-        }
-        due("best(" + u + ", " + items.length + ")", x.best(u, items.length), NONE);
-        due("best(" + u + ", -1)", x.best(u, -1), NONE);
-    }
-
     private static void reads() {
-        promise = "14 reads";
+        topic("promise 14 reads");
         NeighbourScores x = new NeighbourScores();
         due("nothing rated", x.reads(0, 1), 0);
         x.rate(0, 0, 1);
@@ -717,7 +688,7 @@ public final class PromiseTest {
     }
 
     private static void share() {
-        promise = "15 share";
+        topic("promise 15 share");
         NeighbourScores x = new NeighbourScores();
         x.rate(0, 0, 3);
         x.rate(0, 1, 5);
@@ -740,7 +711,7 @@ public final class PromiseTest {
     }
 
     private static void number() {
-        promise = "16 number";
+        topic("promise 16 number");
         NeighbourScores x = filled(7);
         numbers(x, 7, 0, 7);
         x.snapshot();
@@ -759,7 +730,7 @@ public final class PromiseTest {
     }
 
     private static void allOff() {
-        promise = "OFF, before all other refusals";
+        topic("OFF, before all other refusals");
         NeighbourScores x = filled(40);
         off(x);
         for (int e : new int[] {0, 99, -1}) {
@@ -779,81 +750,5 @@ public final class PromiseTest {
         due("spoil", x.spoil(0, 0), true);
         due("word", x.word(52), 40);
         due("restart", x.restart(), 40);
-    }
-
-    /** An object with n ratings, all of different users and items for n up to 12. */
-    private static NeighbourScores filled(int n) {
-        NeighbourScores x = new NeighbourScores();
-        for (int k = 1; k <= n; k++) {
-            x.rate(k % 12, k % 16, k % 5 + 1);
-        }
-        return x;
-    }
-
-    private static NeighbourScores allRatedFive() {
-        NeighbourScores x = new NeighbourScores();
-        int[] words = new int[24];
-        for (int k = 0; k < 24; k++) {
-            words[k] = 0x55555555;
-        }
-        laySnapshot(x, 1, 1, words, true);
-        x.restart();
-        return x;
-    }
-
-    /** Lets the power go off without a word written. */
-    private static void off(NeighbourScores x) {
-        x.power(0);
-        x.snapshot();
-    }
-
-    private static void laySnapshot(NeighbourScores x, int which, int number, int[] ratings, boolean right) {
-        int[] words = new int[25];
-        words[0] = number;
-        System.arraycopy(ratings, 0, words, 1, 24);
-        for (int k = 0; k < 25; k++) {
-            x.spoil(26 * which + k, words[k]);
-        }
-        x.spoil(26 * which + 25, checkOf(1, words) ^ (right ? 0 : 4));
-    }
-
-    private static void layRecord(NeighbourScores x, int number, int content) {
-        int start = 52 + 3 * (number % 40);
-        x.spoil(start, number);
-        x.spoil(start + 1, content);
-        x.spoil(start + 2, checkOf(2, number, content));
-    }
-
-    private static void record(NeighbourScores x, int number, int content) {
-        int start = 52 + 3 * (number % 40);
-        due("number of record " + number, x.word(start), number);
-        due("content of record " + number, x.word(start + 1), content);
-        due("check of record " + number, x.word(start + 2), checkOf(2, number, content));
-    }
-
-    private static int checkOf(int seed, int... words) {
-        int h = seed;
-        for (int x : words) {
-            int y = (h ^ x) * 668265263 + 374761393;
-            h = y ^ (y >>> 15);
-        }
-        return h | 1;
-    }
-
-    private static void numbers(NeighbourScores x, int number, int base, int rated) {
-        due("number(0)", x.number(0), number);
-        due("number(1)", x.number(1), base);
-        due("number(2)", x.number(2), rated);
-    }
-
-    private static void due(String call, boolean got, boolean want) {
-        due(call, got ? 1 : 0, want ? 1 : 0);
-    }
-
-    private static void due(String call, long got, long want) {
-        if (got != want) {
-            wrong++;
-            System.out.println("promise " + promise + ": " + call + " answered " + got + ", due is " + want);
-        }
     }
 }
