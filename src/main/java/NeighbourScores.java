@@ -199,7 +199,8 @@ public final class NeighbourScores {
 
         Disk() {
             int place = Snapshots.WORDS - 1;
-            words[place] = checkOf(words, 0, place, Snapshots.SEED);
+            // Not over the words themselves, which are 0 as well: a constructor hands on nothing of its object.
+            words[place] = checkOf(new int[place], 0, place, Snapshots.SEED);
         }
 
         boolean isPowered() {

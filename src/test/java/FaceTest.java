@@ -29,6 +29,7 @@ public final class FaceTest {
         face();
         insideClasses();
         source();
+        anyArguments();
         room();
         System.out.println(wrong == 0 ? "all is as due" : wrong + " faults");
         if (wrong != 0) {
@@ -106,6 +107,52 @@ public final class FaceTest {
             Matcher found = Pattern.compile(one).matcher(text);
             demand(!found.find(), "the source does not hold " + one);
         }
+    }
+
+    /** No call may throw, whatever its arguments and the state are; a throw ends this test. */
+    private static void anyArguments() {
+        int[] numbers = {Integer.MIN_VALUE, Integer.MIN_VALUE + 1, -1000000000, -173, -2, -1, 0, 1, 11, 12, 15, 16, 171,
+            172, 1000000000, Integer.MAX_VALUE - 1, Integer.MAX_VALUE};
+        for (int state = 0; state < 5; state++) {
+            for (int a : numbers) {
+                for (int b : numbers) {
+                    NeighbourScores x = inState(state);
+                    for (int c : numbers) {
+                        x.rate(a, b, c);
+                        x.share(a, b, c);
+                    }
+                    x.spoil(a, b);
+                    x.rating(a, b);
+                    x.weight(a, b);
+                    x.neighbour(a, b);
+                    x.score(a, b);
+                    x.best(a, b);
+                    x.reads(a, b);
+                    x.number(a);
+                    x.word(a);
+                    x.power(a);
+                    x.snapshot();
+                    demand(x.restart() <= 40, "at most 40 are done");
+                    demand(x.isOn(), "on behind a restart");
+                }
+            }
+        }
+    }
+
+    /** New; with ratings; with the most records; off; with a disk of nothing but one number. */
+    private static NeighbourScores inState(int state) {
+        NeighbourScores x = new NeighbourScores();
+        for (int n = 0; n < (state == 0 ? 0 : state == 1 ? 20 : 40); n++) {
+            x.rate(n % 4, n % 16, 5);
+        }
+        if (state == 3) {
+            x.power(1);
+            x.snapshot();
+        }
+        for (int a = 0; a < 172 && state == 4; a++) {
+            x.spoil(a, 0x80000001);
+        }
+        return x;
     }
 
     /** All calls of a run share one room: a call makes nothing, and an object is small. */

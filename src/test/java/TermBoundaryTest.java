@@ -459,6 +459,12 @@ public final class TermBoundaryTest extends TestBench {
         list(x, 0, 3, 1, 2);
         // Behind round 1 the limit is over its score, behind round 2 under it.
         due("also in a round before", x.reads(0, 1), 6);
+        // User 2's list of 0 is 4 (466033) and 3 (116508), and its rating of 0 is 2; behind round 2 4 is over
+        // the limit. User 0 has rated 0 and 3 with 1: 4 is not over the 466033 + 116508 of round 1.
+        NeighbourScores y = rated(0, 0, 1, 0, 3, 1, 1, 0, 2, 1, 4, 1, 2, 0, 2);
+        list(y, 0, 4, 3);
+        due("user 2's", y.reads(2, 1), 2);
+        due("what was read for another user does not count", y.reads(0, 1), 3);
     }
 
     private static void aboveLimit() {
@@ -468,6 +474,16 @@ public final class TermBoundaryTest extends TestBench {
         due("equal to the limit is not over it", x.reads(1, 1), 2);
         NeighbourScores y = fourEntries();
         due("the next less weight is the limit", y.reads(4, 1), 3);
+        // The list of 0: 1 (691151), 2 (691150), 3 (2880); user 11 has rated 0 with 1.
+        NeighbourScores z = rated(11, 0, 1, 9, 3, 5, 0, 3, 1);
+        rateColumn(z, 0, 3, 5, 5, 5, 5, 4);
+        rateColumn(z, 1, 0, 0, 4, 3, 3, 5);
+        rateColumn(z, 2, 5, 3, 2, 5, 0, 4);
+        due("score of item 1", z.score(11, 1), 691151);
+        due("score of item 2", z.score(11, 2), 691150);
+        list(z, 0, 1, 2, 3);
+        due("over the limit by one", z.reads(11, 1), 2);
+        due("the second over it a round later", z.reads(11, 2), 3);
     }
 
     private static void noRound() {

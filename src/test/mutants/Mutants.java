@@ -144,7 +144,9 @@ public final class Mutants {
                         + " if (lists[j].itemAt(p) == i && c++ > 0) { count++; } } } } }");
         term("notRated", "ratings.at(u, i) == 0 && found[i] == 0", "found[i] == 0");
         term("readSoFar", "long limit = 0;", "long limit = 0; for (int i = 0; i < ITEMS; i++) { found[i] = 0; }");
+        term("readSoFar", "found[j] = 0;", "");
         term("aboveLimit", "found[i] > limit", "found[i] >= limit");
+        term("aboveLimit", "found[i] > limit", "found[i] > limit + 1");
         term("noRound", "return entries;", "return Math.max(entries, 1);");
     }
 
@@ -174,9 +176,9 @@ public final class Mutants {
         term("recordCheck", "SEED = 2;", "SEED = 1;");
         term("ring", "Math.floorMod(n, MOST_RECORDS)", "Math.floorMod(n - 1, MOST_RECORDS)");
         term("ring", "Math.floorMod(n, MOST_RECORDS)", "Math.floorMod(n, MOST_RECORDS - 1)");
-        term("atFirst", "words[place] = checkOf(words, 0, place, Snapshots.SEED);", "");
-        term("atFirst", "words[place] = checkOf(words, 0, place, Snapshots.SEED);",
-                "words[place] = checkOf(words, 0, place, Snapshots.SEED); words[2 * place + 1] = words[place];");
+        term("atFirst", "words[place] = checkOf(new int[place], 0, place, Snapshots.SEED);", "");
+        term("atFirst", "words[place] = checkOf(new int[place], 0, place, Snapshots.SEED);",
+                "words[place] = checkOf(new int[place], 0, place, Snapshots.SEED); words[2 * place + 1] = words[place];");
         term("number0", "systemNumber = 0;", "systemNumber = 1;");
         term("number0", "baseNumber = 0;", "baseNumber = -1;");
         term("noFailure", "wordsToFailure = NEVER; Disk()", "wordsToFailure = 100; Disk()");
